@@ -1,0 +1,100 @@
+import java.lang.reflect.InvocationTargetException;
+import java.lang.reflect.Method;
+import java.util.Set;
+
+/**
+ * Runs of calls that are written as texts, each on a new object, a call a line:
+ * "name(arguments) = answer" or "name(arguments) throws Exception"; "type 0+5" appends the
+ * characters one by one. A call that throws, or that only looks, must leave the digest as it was.
+ */
+final class Runs {
+    private static final Set<String> LOOKS = Set.of("firstError", "counter", "promiseOf", "owner", "count",
+            "setting", "whyNot", "canBe", "mostFor", "ifPassed", "heldShare", "digest");
+
+    private int ran = 0;
+    private int wrong = 0;
+
+    /** Runs the calls on a new object. */
+    void on(String name, String calls) {
+        PromisedCounters counters = new PromisedCounters();
+        int line = 0;
+        for (String text : calls.split("\n")) {
+            line++;
+            if (!text.isBlank()) {
+                runLine(counters, name + ", line " + line, text.strip());
+            }
+        }
+    }
+
+    /** Tells of an answer that is not the one that is due. */
+    void due(String call, Object got, Object want) {
+        ran++;
+        if (!want.equals(got)) {
+            wrong++;
+            System.out.println(call + " answered " + got + ", due is " + want);
+        }
+    }
+
+    /** Ends the test: with 1 if an answer was wrong, and if there was none at all. */
+    void end() {
+        System.out.println(ran + " answers, " + wrong + " wrong");
+        if (wrong != 0 || ran == 0) {
+            System.exit(1);
+        }
+    }
+
+    private void runLine(PromisedCounters counters, String place, String text) {
+        if (text.startsWith("type ")) {
+            type(counters, place, text.substring("type ".length()));
+            return;
+        }
+        int behindCall = text.indexOf(')') + 1;
+        String call = text.substring(0, behindCall);
+        String want = text.substring(behindCall).strip().replaceFirst("^= ", "");
+        long before = counters.digest();
+        String got = answer(counters, call);
+        due(place + ": " + call, got, want);
+        boolean isLook = LOOKS.contains(call.substring(0, call.indexOf('(')));
+        if (isLook || got.startsWith("throws")) {
+            due(place + ": the digest behind " + call, counters.digest(), before);
+        }
+    }
+
+    private void type(PromisedCounters counters, String place, String signs) {
+        due(place + ": the length before", counters.clearBuffer(), 0);
+        for (int i = 0; i < signs.length(); i++) {
+            due(place + ": append", counters.append(signs.charAt(i)), i + 1);
+        }
+    }
+
+    private static String answer(PromisedCounters counters, String call) {
+        String name = call.substring(0, call.indexOf('('));
+        String inside = call.substring(name.length() + 1, call.length() - 1).strip();
+        String[] words = inside.isEmpty() ? new String[0] : inside.split("\\s*,\\s*");
+        try {
+            return String.valueOf(methodOf(name).invoke(counters, arguments(words)));
+        } catch (InvocationTargetException thrown) {
+            return "throws " + thrown.getCause().getClass().getSimpleName();
+        } catch (IllegalAccessException hidden) {
+            throw new IllegalStateException(hidden);
+        }
+    }
+
+    private static Method methodOf(String name) {
+        for (Method method : PromisedCounters.class.getMethods()) {
+            if (method.getName().equals(name)) {
+                return method;
+            }
+        }
+        throw new IllegalStateException("no method " + name);
+    }
+
+    private static Object[] arguments(String[] words) {
+        Object[] values = new Object[words.length];
+        for (int i = 0; i < words.length; i++) {
+            boolean isTruth = words[i].equals("true") || words[i].equals("false");
+            values[i] = isTruth ? (Object) Boolean.valueOf(words[i]) : (Object) Integer.valueOf(words[i]);
+        }
+        return values;
+    }
+}
