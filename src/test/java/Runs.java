@@ -67,12 +67,13 @@ final class Runs {
         }
     }
 
-    private static String answer(PromisedCounters counters, String call) {
+    /** What an object answers to a call that is written as a text. */
+    static String answer(Object object, String call) {
         String name = call.substring(0, call.indexOf('('));
         String inside = call.substring(name.length() + 1, call.length() - 1).strip();
         String[] words = inside.isEmpty() ? new String[0] : inside.split("\\s*,\\s*");
         try {
-            return String.valueOf(methodOf(name).invoke(counters, arguments(words)));
+            return String.valueOf(methodOf(object, name).invoke(object, arguments(words)));
         } catch (InvocationTargetException thrown) {
             return "throws " + thrown.getCause().getClass().getSimpleName();
         } catch (IllegalAccessException hidden) {
@@ -80,8 +81,8 @@ final class Runs {
         }
     }
 
-    private static Method methodOf(String name) {
-        for (Method method : PromisedCounters.class.getMethods()) {
+    private static Method methodOf(Object object, String name) {
+        for (Method method : object.getClass().getMethods()) {
             if (method.getName().equals(name)) {
                 return method;
             }
