@@ -730,11 +730,12 @@ public final class PromisedCounters {
 
     /**
      * The values that a counter could have behind the settlement of some of its promises. There is
-     * a place for each value from its low to its high, which are never further apart than its bounds.
+     * a place for each value from its low to its high, which are as far apart as all the changes are
+     * in size.
      */
     private static final class Outcomes {
         /** The fewest promises that give the value, by how far it is above the low; NONE without such. */
-        private final int[] fewest = new int[2 * BOUND_SIZE + 1];
+        private final int[] fewest = new int[MOST_PROMISES * CHANGE_SIZE + 1];
 
         int manyOf(State state, int c) {
             int span = fill(state, c);

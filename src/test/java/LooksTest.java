@@ -73,6 +73,23 @@ final class LooksTest {
                 counter(0, 3) = -127
                 counter(0, 4) = 127
                 """);
+        runs.on("17: as far apart as can be", """
+                set(0, 16) = 6
+                bounds(0, -999, 999) = 100
+                bounds(1, -999, 999) = 100
+                type 0+99;0>1:99;0+99;0>1:99;0+99;0>1:99;0+99;0>1:99
+                promiseAll() = 8
+                type 0+99;1>0:99;0-99;0>1:98;0-99;1>0:99;0+99;0>1:99
+                promiseAll() = 8
+                counter(0, 9) = 32
+                counter(0, 4) = 792
+                counter(0, 3) = -791
+                canBe(0, -791) = 8
+                canBe(0, 792) = 8
+                canBe(0, 1) = 2
+                canBe(0, 2) = -1
+                counter(1, 9) = 16
+                """);
     }
 
     private static void promiseOf(Runs runs) {
@@ -176,6 +193,10 @@ final class LooksTest {
                 pass(5) = 1
                 count(8) = -1
                 count(6) = 2
+                transfer(0, 0, 1, 1) = 0
+                count(2) = 1
+                transfer(0, 0, 1, 1) = 1
+                count(2) = 2
                 count(-1) throws IllegalArgumentException
                 count(10) throws IllegalArgumentException
                 """);

@@ -33,7 +33,7 @@ final class ModelTest {
         }
         boolean isSame = true;
         while (isSame && calls.size() < CALLS) {
-            isSame = draw(12) == 0 ? isSameText() : isSameCall(nextCall(run % 4));
+            isSame = draw(40) == 0 ? isSameText() : isSameCall(nextCall(run % 4));
         }
         if (!isSame) {
             System.out.println("run " + run + " went wrong at its last call: " + String.join("; ", calls));
@@ -102,12 +102,22 @@ final class ModelTest {
             case 3: return "count(" + in(0, 9) + ")";
             case 4: return "setting(" + in(0, 1) + ")";
             case 5: return "whyNot(" + owner() + in(0, 3) + ", " + in(-99, 99) + ")";
-            case 6: case 7: return "canBe(" + in(0, 3) + ", " + in(-250, 250) + ")";
+            case 6: case 7: return nextCanBe(draw(4));
             case 8: return "mostFor(" + owner() + in(0, 3) + ", " + (draw(2) == 0) + ")";
             case 9: return "ifPassed(" + in(0, 200) + ", " + in(0, 4) + ")";
             case 10: return "ifPassed(" + in(0, 20) + ", " + in(0, 4) + ")";
             default: return "heldShare()";
         }
+    }
+
+    /** Asks for a value that the counter could have, or one near to it. */
+    private String nextCanBe(int counter) {
+        int value = model.counter(counter, 0);
+        for (int p = 0; p < model.count(1); p++) {
+            boolean isOf = model.promiseOf(p, 1) == counter && draw(2) == 0;
+            value += isOf ? model.promiseOf(p, 2) : 0;
+        }
+        return "canBe(" + in(counter, counter) + ", " + (value + (draw(8) == 0 ? draw(3) - 1 : 0)) + ")";
     }
 
     /** Changes as a text, every third time with a sign that may be wrong, or cut. */

@@ -241,6 +241,24 @@ final class PromisesTest {
                 cancel(0) = 0
                 cancel(0) throws IndexOutOfBoundsException
                 """);
+        runs.on("8: those behind are the same but for their numbers", """
+                bounds(3, -50, 50) = 100
+                promise(0, 0, 60) = 0
+                promise(1, 1, 40) = 1
+                pass(3) = 0
+                transfer(2, 3, 1, 30) = 2
+                cancel(0) = 2
+                promiseOf(0, 0) = 1
+                promiseOf(0, 1) = 1
+                promiseOf(0, 2) = 40
+                promiseOf(0, 3) = -1
+                promiseOf(0, 4) = 10
+                promiseOf(1, 0) = 2
+                promiseOf(1, 1) = 3
+                promiseOf(1, 2) = -30
+                promiseOf(1, 3) = 1
+                promiseOf(1, 4) = 13
+                """);
     }
 
     private static void renew(Runs runs) {

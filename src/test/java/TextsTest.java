@@ -47,11 +47,11 @@ final class TextsTest {
     private static void firstError(Runs runs) {
         firstErrors(runs, 0, "4", "+", ";", "o", "a", "/", ":", "-1", ";0+1");
         firstErrors(runs, 1, "0", "0;", "0:", "0o", "00", "0=1", "3,");
-        firstErrors(runs, 2, "0>", "0>0", "1>1:5", "0>4", "0>:", "0+0", "0-+", "0+;", "2-:", "1+a");
-        firstErrors(runs, 3, "0>1", "0>1+", "0>1;", "0>1o", "0>15", "0+1", "0+1:", "0+1+", "0-1>");
+        firstErrors(runs, 2, "0>", "0>0", "0>/", "1>1:5", "0>4", "0>:", "0+0", "0-+", "0+;", "2-:", "1+a");
+        firstErrors(runs, 3, "0>1", "0>1+", "0>1;", "0+1/", "0-1!", "0>1o", "0>15", "0+1", "0+1:", "0+1+", "0-1>");
         firstErrors(runs, 4, "0>1:", "0>1:0", "0>1:;", "0+10", "0+100", "0-99:", "0+1o", "0+1o6", "0+1o;", "0+5;",
                 "0+5;;", "0+5;4", "0+1o/");
-        firstErrors(runs, 5, "0+1o5", "0+1o55", "0+1o5o", "0+1o5+", "0+99o", "0+99o:", "0+99;", "3>2:9", "3>2:9:",
+        firstErrors(runs, 5, "0+1o0", "0+1o0o", "0+1o5", "0+1o55", "0+1o5o", "0+1o5+", "0+99o", "0+99o:", "0+99;", "3>2:9", "3>2:9:",
                 "0+1;0", "0+1;0;");
         firstErrors(runs, 6, "3>2:90", "3>2:900", "0>1:9o", "0>1:9o9", "0>1:9;", "0>1:9;a");
         firstErrors(runs, 12, "0>1:10o3;3-9", "0>1:10o3;3-9+", "2>1:10o3;3-9>");
@@ -178,6 +178,64 @@ final class TextsTest {
                 undo() = 1
                 undo() = 0
                 count(3) = 0
+                """);
+        runs.on("16: all of the state comes back", """
+                bounds(0, -20, 80) = 100
+                transfer(1, 0, 3, 4) = 0
+                pass(2) = 0
+                promise(2, 1, 6) = 1
+                promise(3, 2, 7) = 2
+                bounds(0, -10, 50) = 100
+                finish(1, true) = 1
+                cancel(0) = 1
+                set(1, 4) = 10
+                renew(0) = -6
+                pass(4) = 1
+                transfer(4, 0, 2, 5) = 0
+                undo() = 5
+                count(1) = 0
+                undo() = 4
+                count(0) = 2
+                count(6) = 0
+                owner(3, 3) = 0
+                promiseOf(0, 0) = 3
+                promiseOf(0, 1) = 2
+                promiseOf(0, 2) = 7
+                promiseOf(0, 3) = -1
+                promiseOf(0, 4) = 6
+                undo() = 3
+                promiseOf(0, 4) = 12
+                setting(1) = 4
+                undo() = 2
+                setting(1) = 10
+                undo() = 1
+                promiseOf(0, 0) = 2
+                promiseOf(0, 1) = 1
+                promiseOf(0, 2) = 6
+                owner(2, 2) = 0
+                undo() = 0
+                promiseOf(0, 0) = 1
+                promiseOf(0, 1) = 0
+                promiseOf(0, 2) = -4
+                promiseOf(0, 3) = 3
+                promiseOf(0, 4) = 10
+                promiseOf(1, 3) = -1
+                promiseOf(1, 4) = 12
+                counter(0, 0) = 0
+                counter(3, 0) = 0
+                owner(1, 1) = 0
+                counter(0, 1) = -10
+                count(3) = 3
+                """);
+        runs.on("16: the bounds come back", """
+                bounds(0, -20, 80) = 100
+                bounds(0, -10, 50) = 100
+                undo() = 1
+                counter(0, 1) = -20
+                counter(0, 2) = 80
+                undo() = 0
+                counter(0, 1) = 0
+                counter(0, 2) = 100
                 """);
         runs.on("16: a call that throws saves nothing, one that changes nothing does", """
                 set(0, 6) = 6

@@ -9,6 +9,8 @@ final class WouldBeTest {
         heldShare(runs);
         digestOfNew(runs);
         digestOfUsed(runs);
+        digestByCalls(runs);
+        digestOfShares(runs);
         runs.end();
     }
 
@@ -237,6 +239,68 @@ final class WouldBeTest {
         hash = hashed(hash, 2, '0', '>');
         runs.due("27: the digest of a used object", counters.digest(), hash);
         runs.due("27: the same again", counters.digest(), hash);
+    }
+
+    /** States in which other arguments of the calls in the list would have other answers. */
+    private static void digestByCalls(Runs runs) {
+        for (int most = 5; most <= 12; most++) {
+            PromisedCounters counters = new PromisedCounters();
+            counters.bounds(1, -3, most);
+            counters.bounds(2, -3, most + 1);
+            for (int holds = 3; holds <= 7; holds++) {
+                counters.set(1, holds);
+                counters.promise(0, 1, -1 + holds % 2 * 2);
+                runs.due("27: the digest by calls", counters.digest(), byCalls(counters));
+            }
+            counters.set(0, 5);
+            counters.promise(3, 0, 5);
+            counters.settle(5);
+            runs.due("27: the digest by calls, an owner has too many", counters.digest(), byCalls(counters));
+        }
+    }
+
+    /** Shares whose bits end at the point, 1.0 and halves of it, and ones that go on behind it. */
+    private static void digestOfShares(Runs runs) {
+        PromisedCounters counters = new PromisedCounters();
+        for (int c = 1; c < 4; c++) {
+            counters.bounds(c, 0, 0);
+        }
+        counters.promise(0, 0, 1);
+        for (int most : new int[] {1, 2, 3, 4, 5, 7, 8, 16, 49, 64, 512, 998, 999}) {
+            counters.bounds(0, 0, most);
+            runs.due("27: the share with room " + most, counters.heldShare(), 1.0 / most);
+            runs.due("27: the digest with room " + most, counters.digest(), byCalls(counters));
+        }
+    }
+
+    /** The digest of counters with an empty buffer, by the calls that the document lists. */
+    private static long byCalls(PromisedCounters counters) {
+        long hash = 2713L;
+        for (int what = 0; what <= 9; what++) {
+            hash = hashed(hash, counters.count(what));
+        }
+        hash = hashed(hash, counters.setting(0), counters.setting(1));
+        for (int c = 0; c <= 3; c++) {
+            for (int what = 0; what <= 9; what++) {
+                hash = hashed(hash, counters.counter(c, what));
+            }
+            hash = hashed(hash, counters.canBe(c, 5), counters.mostFor(0, c, true), counters.mostFor(0, c, false));
+        }
+        for (int p = 0; p < counters.count(1); p++) {
+            for (int what = 0; what <= 5; what++) {
+                hash = hashed(hash, counters.promiseOf(p, what));
+            }
+        }
+        for (int o = 0; o <= 5; o++) {
+            for (int what = 0; what <= 4; what++) {
+                hash = hashed(hash, counters.owner(o, what));
+            }
+            hash = hashed(hash, counters.whyNot(o, 1, 7));
+        }
+        for (int what = 0; what <= 4; what++) {
+            hash = hashed(hash, counters.ifPassed(5, what));
+        }
+        return hashed(hash, Double.doubleToLongBits(counters.heldShare()), 0);
     }
 
     private static long hashed(long before, long... values) {
