@@ -89,6 +89,11 @@ final class LooksTest {
                 canBe(0, 1) = 2
                 canBe(0, 2) = -1
                 counter(1, 9) = 16
+                cancel(11) = 15
+                promise(5, 0, -99) = 15
+                counter(0, 9) = 17
+                canBe(0, -792) = 8
+                canBe(0, 792) = 8
                 """);
     }
 
