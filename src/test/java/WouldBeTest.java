@@ -197,16 +197,16 @@ final class WouldBeTest {
         long[] counter = {0, 0, 100, 0, 0, 0, 0, 0, 100, 1, -1, 99, 0};
         long[] owner = {0, 0, 0, 0, 0, 0};
         long hash = 2713L;
-        hash = hashed(hash, 0, 0, 0, 0, 0, 0, 0, 0, -1, 0);
-        hash = hashed(hash, 6, 10);
+        hash = Digests.hashed(hash, 0, 0, 0, 0, 0, 0, 0, 0, -1, 0);
+        hash = Digests.hashed(hash, 6, 10);
         for (int c = 0; c < 4; c++) {
-            hash = hashed(hash, counter);
+            hash = Digests.hashed(hash, counter);
         }
         for (int o = 0; o < 6; o++) {
-            hash = hashed(hash, owner);
+            hash = Digests.hashed(hash, owner);
         }
-        hash = hashed(hash, 0, 0, 0, 0, 0);
-        hash = hashed(hash, 0, 0);
+        hash = Digests.hashed(hash, 0, 0, 0, 0, 0);
+        hash = Digests.hashed(hash, 0, 0);
         runs.due("27: the digest of a new object", new PromisedCounters().digest(), hash);
     }
 
@@ -220,23 +220,23 @@ final class WouldBeTest {
         counters.append('0');
         counters.append('>');
         long hash = 2713L;
-        hash = hashed(hash, 6, 2, 1, 2, 0, 0, 0, 0, 10, 4);
-        hash = hashed(hash, 6, 10);
-        hash = hashed(hash, 0, 0, 100, 0, 8, 2, 8, 0, 92, 4, 1, 92, 0);
-        hash = hashed(hash, 0, -8, 92, -3, 0, 1, -3, 5, 92, 2, -1, 92, 5);
-        hash = hashed(hash, 0, 0, 100, 0, 0, 0, 0, 0, 100, 1, -1, 99, 0);
-        hash = hashed(hash, 0, 0, 100, 0, 0, 0, 0, 0, 100, 1, -1, 99, 0);
-        hash = hashed(hash, 2, 0, 5, -1, 10, 4);
-        hash = hashed(hash, 3, 1, -3, 0, 16, 10);
-        hash = hashed(hash, 0, 0, 0, 0, 0, 0);
-        hash = hashed(hash, 0, 0, 0, 0, 0, 0);
-        hash = hashed(hash, 1, 0, 0, 0, 5, 0);
-        hash = hashed(hash, 1, 0, 0, 0, 3, 0);
-        hash = hashed(hash, 0, 0, 0, 0, 0, 0);
-        hash = hashed(hash, 0, 0, 0, 0, 0, 0);
-        hash = hashed(hash, 1, 0, 5, 0, 0);
-        hash = hashed(hash, Double.doubleToLongBits(11.0 / 400.0));
-        hash = hashed(hash, 2, '0', '>');
+        hash = Digests.hashed(hash, 6, 2, 1, 2, 0, 0, 0, 0, 10, 4);
+        hash = Digests.hashed(hash, 6, 10);
+        hash = Digests.hashed(hash, 0, 0, 100, 0, 8, 2, 8, 0, 92, 4, 1, 92, 0);
+        hash = Digests.hashed(hash, 0, -8, 92, -3, 0, 1, -3, 5, 92, 2, -1, 92, 5);
+        hash = Digests.hashed(hash, 0, 0, 100, 0, 0, 0, 0, 0, 100, 1, -1, 99, 0);
+        hash = Digests.hashed(hash, 0, 0, 100, 0, 0, 0, 0, 0, 100, 1, -1, 99, 0);
+        hash = Digests.hashed(hash, 2, 0, 5, -1, 10, 4);
+        hash = Digests.hashed(hash, 3, 1, -3, 0, 16, 10);
+        hash = Digests.hashed(hash, 0, 0, 0, 0, 0, 0);
+        hash = Digests.hashed(hash, 0, 0, 0, 0, 0, 0);
+        hash = Digests.hashed(hash, 1, 0, 0, 0, 5, 0);
+        hash = Digests.hashed(hash, 1, 0, 0, 0, 3, 0);
+        hash = Digests.hashed(hash, 0, 0, 0, 0, 0, 0);
+        hash = Digests.hashed(hash, 0, 0, 0, 0, 0, 0);
+        hash = Digests.hashed(hash, 1, 0, 5, 0, 0);
+        hash = Digests.hashed(hash, Double.doubleToLongBits(11.0 / 400.0));
+        hash = Digests.hashed(hash, 2, '0', '>');
         runs.due("27: the digest of a used object", counters.digest(), hash);
         runs.due("27: the same again", counters.digest(), hash);
     }
@@ -244,70 +244,42 @@ final class WouldBeTest {
     /** States in which other arguments of the calls in the list would have other answers. */
     private static void digestByCalls(Runs runs) {
         for (int most = 5; most <= 12; most++) {
-            PromisedCounters counters = new PromisedCounters();
-            counters.bounds(1, -3, most);
-            counters.bounds(2, -3, most + 1);
             for (int holds = 3; holds <= 7; holds++) {
-                counters.set(1, holds);
-                counters.promise(0, 1, -1 + holds % 2 * 2);
-                runs.due("27: the digest by calls", counters.digest(), byCalls(counters));
+                PromisedCounters counters = withShortOnes(most, holds);
+                runs.due("27: the digest by calls", counters.digest(), Digests.byCalls(counters, ""));
             }
+            PromisedCounters counters = withShortOnes(most, 7);
             counters.set(0, 5);
             counters.promise(3, 0, 5);
             counters.settle(5);
-            runs.due("27: the digest by calls, an owner has too many", counters.digest(), byCalls(counters));
+            runs.due("27: the digest by calls, an owner has too many", counters.digest(),
+                    Digests.byCalls(counters, ""));
         }
+    }
+
+    /** Owner 0 has promises of 1 or -1 for counter 1, until 3 and each time until then. */
+    private static PromisedCounters withShortOnes(int most, int until) {
+        PromisedCounters counters = new PromisedCounters();
+        counters.bounds(1, -3, most);
+        counters.bounds(2, -3, most + 1);
+        for (int holds = 3; holds <= until; holds++) {
+            counters.set(1, holds);
+            counters.promise(0, 1, -1 + holds % 2 * 2);
+        }
+        return counters;
     }
 
     /** Shares whose bits end at the point, 1.0 and halves of it, and ones that go on behind it. */
     private static void digestOfShares(Runs runs) {
-        PromisedCounters counters = new PromisedCounters();
-        for (int c = 1; c < 4; c++) {
-            counters.bounds(c, 0, 0);
-        }
-        counters.promise(0, 0, 1);
         for (int most : new int[] {1, 2, 3, 4, 5, 7, 8, 16, 49, 64, 512, 998, 999}) {
+            PromisedCounters counters = new PromisedCounters();
+            for (int c = 1; c < 4; c++) {
+                counters.bounds(c, 0, 0);
+            }
+            counters.promise(0, 0, 1);
             counters.bounds(0, 0, most);
             runs.due("27: the share with room " + most, counters.heldShare(), 1.0 / most);
-            runs.due("27: the digest with room " + most, counters.digest(), byCalls(counters));
+            runs.due("27: the digest with room " + most, counters.digest(), Digests.byCalls(counters, ""));
         }
-    }
-
-    /** The digest of counters with an empty buffer, by the calls that the document lists. */
-    private static long byCalls(PromisedCounters counters) {
-        long hash = 2713L;
-        for (int what = 0; what <= 9; what++) {
-            hash = hashed(hash, counters.count(what));
-        }
-        hash = hashed(hash, counters.setting(0), counters.setting(1));
-        for (int c = 0; c <= 3; c++) {
-            for (int what = 0; what <= 9; what++) {
-                hash = hashed(hash, counters.counter(c, what));
-            }
-            hash = hashed(hash, counters.canBe(c, 5), counters.mostFor(0, c, true), counters.mostFor(0, c, false));
-        }
-        for (int p = 0; p < counters.count(1); p++) {
-            for (int what = 0; what <= 5; what++) {
-                hash = hashed(hash, counters.promiseOf(p, what));
-            }
-        }
-        for (int o = 0; o <= 5; o++) {
-            for (int what = 0; what <= 4; what++) {
-                hash = hashed(hash, counters.owner(o, what));
-            }
-            hash = hashed(hash, counters.whyNot(o, 1, 7));
-        }
-        for (int what = 0; what <= 4; what++) {
-            hash = hashed(hash, counters.ifPassed(5, what));
-        }
-        return hashed(hash, Double.doubleToLongBits(counters.heldShare()), 0);
-    }
-
-    private static long hashed(long before, long... values) {
-        long hash = before;
-        for (long value : values) {
-            hash = 31 * hash + value;
-        }
-        return hash;
     }
 }
