@@ -1,4 +1,3 @@
-import java.util.ArrayList;
 import java.util.List;
 
 /** The sentences of the terms on undo and exceptions, which are for many calls. */
@@ -300,13 +299,12 @@ final class CallEdges {
 
     /** Each call to which two exceptions apply at once, or all three. */
     private static void throwsTheFirst(Edges edges) {
-        List<String> calls = new ArrayList<>(List.of("bounds(4, 5, 4)", "bounds(-1, -1000, 0)", "bounds(4, 1, 9)",
+        for (String call : List.of("bounds(4, 5, 4)", "bounds(-1, -1000, 0)", "bounds(4, 1, 9)",
                 "set(2, 0)", "set(-1, 100)", "promise(6, 0, 0)", "promise(0, 4, 100)", "promise(0, -1, -1)",
                 "promise(6, 0, -1)", "transfer(6, 0, 0, 1)", "transfer(0, 4, 4, 1)", "transfer(0, -1, 0, 0)",
                 "transfer(0, 0, 4, 100)", "transfer(0, 0, 4, 1)", "transfer(-1, 0, 1, 1)", "settlePart(0, 0)",
                 "settlePart(-1, 1)", "counter(4, 10)", "counter(-1, -1)", "promiseOf(0, 6)", "promiseOf(-1, -1)",
-                "owner(6, 5)", "owner(-1, -1)", "whyNot(6, 0, 0)", "whyNot(0, 4, 100)", "whyNot(-1, -1, -100)"));
-        for (String call : calls) {
+                "owner(6, 5)", "owner(-1, -1)", "whyNot(6, 0, 0)", "whyNot(0, 4, 100)", "whyNot(-1, -1, -100)")) {
             edges.of(EXCEPTIONS, NAMED_FIRST, call + " throws IndexOutOfBoundsException");
         }
         for (String call : List.of("bounds(0, 1, 0)", "bounds(0, 1, 1000)", "bounds(0, -1000, -1)",

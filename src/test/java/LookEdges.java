@@ -355,6 +355,21 @@ final class LookEdges {
                 count(7) = -1
                 count(9) = 6
                 """);
+        edges.of("20", OF_ALL, """
+                bounds(0, -99, 99) = 100
+                promise(0, 0, -5) = 0
+                promise(0, 0, 5) = 1
+                count(2) = 0
+                transfer(1, 0, 3, 5) = 2
+                transfer(1, 0, 3, 5) = 3
+                count(2) = 2
+                settlePart(2, 4) = -1
+                count(2) = 2
+                settle(2) = -5
+                count(2) = 1
+                pass(10) = 3
+                count(2) = 0
+                """);
         edges.outside("20", "Throws `IllegalArgumentException` if what is not 0 to 9", "", "count(#)", Edges.ARGUMENT,
                 -1, 10, Integer.MIN_VALUE, Integer.MAX_VALUE);
     }

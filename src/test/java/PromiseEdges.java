@@ -142,17 +142,32 @@ final class PromiseEdges {
                 count(1) = 0
                 counter(3, 3) = 0
                 """);
-        edges.of("5", List.of("`owner`: 0 to 5", "`from`: 0 to 3", "`to`: 0 to 3, another counter"), """
+        edges.of("5", "`owner`: 0 to 5", """
+                bounds(1, -9, 9) = 100
+                transfer(0, 1, 2, 2) = 0
+                transfer(5, 1, 2, 3) = 1
+                promiseOf(0, 0) = 0
+                promiseOf(1, 0) = 5
+                """);
+        edges.of("5", "`from`: 0 to 3", """
                 bounds(0, -9, 9) = 100
                 bounds(3, -9, 9) = 100
-                transfer(0, 0, 3, 2) = 0
-                transfer(5, 3, 0, 3) = 1
-                promiseOf(0, 0) = 0
+                transfer(1, 0, 2, 2) = 0
+                transfer(1, 3, 2, 3) = 1
                 promiseOf(0, 1) = 0
-                promiseOf(0, 3) = 3
-                promiseOf(1, 0) = 5
                 promiseOf(1, 1) = 3
-                promiseOf(1, 3) = 0
+                counter(0, 3) = -2
+                counter(3, 3) = -3
+                """);
+        edges.of("5", "`to`: 0 to 3, another counter", """
+                bounds(1, -9, 9) = 100
+                transfer(1, 1, 0, 2) = 0
+                transfer(1, 1, 3, 3) = 1
+                promiseOf(0, 3) = 0
+                promiseOf(1, 3) = 3
+                counter(0, 4) = 2
+                counter(3, 4) = 3
+                transfer(1, 1, 1, 1) throws IllegalArgumentException
                 """);
         edges.of("5", "`many`: 1 to 99", """
                 bounds(0, -100, 100) = 100

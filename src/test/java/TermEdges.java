@@ -1,5 +1,3 @@
-import java.util.List;
-
 /** The sentences of the terms on counters and promises, reasons and settings. */
 final class TermEdges {
     private static final String COUNTERS = "Counters, promises";
@@ -455,7 +453,7 @@ final class TermEdges {
                 """);
         edges.outside(SETTINGS, SETTINGS_TOLD, "", "set(0, #)", Edges.ARGUMENT, 0, -1, 17, 99);
         edges.outside(SETTINGS, SETTINGS_TOLD, "", "set(1, #)", Edges.ARGUMENT, 0, -1, 100);
-        edges.of("Exceptions", List.of("The constants: `NONE = -1`: There is nothing to return."), """
+        edges.of("Exceptions", "The constants: `NONE = -1`: There is nothing to return.", """
                 promise(0, 0, 1) = 0
                 promiseOf(0, 3) = -1
                 canBe(0, 2) = -1

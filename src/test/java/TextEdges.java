@@ -310,8 +310,7 @@ final class TextEdges {
     }
 
     private static void undo(Edges edges) {
-        edges.of("16", List.of("Restores the latest saved state, and drops it.",
-                "Returns how many saved states are left."), """
+        edges.of("16", "Restores the latest saved state, and drops it.", """
                 promise(0, 0, 1) = 0
                 promise(1, 1, 2) = 1
                 settle(0) = 1

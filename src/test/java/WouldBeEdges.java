@@ -15,8 +15,8 @@ final class WouldBeEdges {
     private static final String VALUES = "The values are: count(0) to count(9); the settings 0 and 1; for each counter "
             + "its properties 0 to 9, canBe of 5, and mostFor of the owner 0, above and then below 0; for each promise "
             + "its properties 0 to 5; for each owner the properties 0 to 4, and whyNot for the counter 1 by 7; "
-            + "ifPassed of 5 with 0 to 4; the bits of heldShare (as Double.doubleToLongBits); the length of the buffer and each "
-            + "of its character codes.";
+            + "ifPassed of 5 with 0 to 4; the bits of heldShare (as Double.doubleToLongBits); the length of the buffer "
+            + "and each of its character codes.";
     private static final int[] NO_OWNERS = {-1, 6, Integer.MIN_VALUE, Integer.MAX_VALUE};
     private static final int[] NO_COUNTERS = {-1, 4, Integer.MIN_VALUE, Integer.MAX_VALUE};
 
@@ -47,16 +47,23 @@ final class WouldBeEdges {
                 promise(0, 0, -1) throws IllegalStateException
                 count(1) = 2
                 """);
-        edges.of("22", List.of("`owner`: 0 to 5", "`counter`: 0 to 3"), """
+        edges.of("22", "`owner`: 0 to 5", """
                 set(0, 1) = 6
                 promise(0, 0, 1) = 0
                 promise(5, 0, 1) = 1
-                bounds(3, 0, 0) = 100
                 whyNot(0, 0, 1) = 2
                 whyNot(5, 0, 1) = 2
                 whyNot(4, 0, 1) = 0
-                whyNot(4, 3, 1) = 4
-                whyNot(4, 2, 1) = 0
+                """);
+        edges.of("22", "`counter`: 0 to 3", """
+                bounds(0, -5, 5) = 100
+                bounds(3, 0, 0) = 100
+                whyNot(0, 0, 5) = 0
+                whyNot(0, 0, 6) = 4
+                whyNot(0, 3, 1) = 4
+                whyNot(0, 2, 1) = 0
+                whyNot(0, 0, -5) = 0
+                whyNot(0, 3, -1) = 3
                 """);
         edges.of("22", "`by`: -99 to 99, not 0", """
                 bounds(0, -99, 99) = 100
@@ -93,7 +100,15 @@ final class WouldBeEdges {
     }
 
     private static void canBe(Edges edges) {
-        edges.of("23", List.of("Tells whether a counter could have a value.", "`counter`: 0 to 3"), """
+        edges.of("23", "Tells whether a counter could have a value.", """
+                bounds(2, -7, 0) = 100
+                promise(0, 2, -7) = 0
+                canBe(2, 0) = 0
+                canBe(2, -7) = 1
+                canBe(2, -1) = -1
+                canBe(2, 7) = -1
+                """);
+        edges.of("23", "`counter`: 0 to 3", """
                 promise(0, 0, 4) = 0
                 promise(0, 3, 9) = 1
                 canBe(0, 0) = 0
@@ -188,8 +203,13 @@ final class WouldBeEdges {
     }
 
     private static void mostFor(Edges edges) {
-        edges.of("24", List.of("Finds the greatest change that could be promised.",
-                "`isMore`: whether a change above 0 is asked for, otherwise one below 0"), """
+        edges.of("24", "Finds the greatest change that could be promised.", """
+                promise(0, 2, 40) = 0
+                mostFor(1, 2, true) = 60
+                promise(1, 2, 61) throws IllegalStateException
+                promise(1, 2, 60) = 1
+                """);
+        edges.of("24", "`isMore`: whether a change above 0 is asked for, otherwise one below 0", """
                 bounds(0, -20, 30) = 100
                 mostFor(0, 0, true) = 30
                 mostFor(0, 0, false) = 20
@@ -200,14 +220,22 @@ final class WouldBeEdges {
                 mostFor(0, 0, true) = 18
                 mostFor(0, 0, false) = 7
                 """);
-        edges.of("24", List.of("`owner`: 0 to 5", "`counter`: 0 to 3"), """
+        edges.of("24", "`owner`: 0 to 5", """
                 set(0, 1) = 6
                 promise(0, 0, 1) = 0
                 promise(5, 3, 2) = 1
                 mostFor(0, 0, true) = 0
                 mostFor(5, 0, true) = 0
                 mostFor(4, 0, true) = 99
-                mostFor(4, 3, true) = 98
+                """);
+        edges.of("24", "`counter`: 0 to 3", """
+                bounds(0, -3, 7) = 100
+                bounds(3, -5, 9) = 100
+                mostFor(0, 0, true) = 7
+                mostFor(0, 3, true) = 9
+                mostFor(0, 0, false) = 3
+                mostFor(0, 3, false) = 5
+                mostFor(0, 1, true) = 99
                 """);
         edges.of("24", MOST, """
                 mostFor(0, 0, true) = 99
@@ -248,8 +276,14 @@ final class WouldBeEdges {
     }
 
     private static void ifPassed(Edges edges) {
-        edges.of("25", List.of("Tells what time would bring (the limit of 9999 does not matter).",
-                "Returns the number."), CallEdges.lastTime() + """
+        edges.of("25", "Returns the number.", """
+                promise(0, 0, 1) = 0
+                ifPassed(10, 0) = 1
+                ifPassed(10, 1) = 0
+                count(0) = 0
+                count(1) = 1
+                """);
+        edges.of("25", "Tells what time would bring (the limit of 9999 does not matter).", CallEdges.lastTime() + """
                 bounds(1, -9, 9) = 100
                 promise(0, 1, -5) = 0
                 ifPassed(9, 0) = 0
