@@ -7,6 +7,7 @@ import java.io.IOException;
 final class EdgesTest {
     public static void main(String[] args) throws IOException {
         Edges edges = new Edges();
+        FaceEdges.run(edges);
         TermEdges.run(edges);
         CallEdges.run(edges);
         CounterEdges.run(edges);

@@ -1,8 +1,11 @@
+import java.io.IOException;
 import java.lang.reflect.Constructor;
 import java.lang.reflect.Field;
 import java.lang.reflect.Member;
 import java.lang.reflect.Method;
 import java.lang.reflect.Modifier;
+import java.nio.file.Files;
+import java.nio.file.Path;
 import java.util.Arrays;
 import java.util.HashSet;
 import java.util.Set;
@@ -44,8 +47,9 @@ final class FaceTest {
         "long digest()",
     };
 
-    public static void main(String[] args) {
+    public static void main(String[] args) throws IOException {
         Runs runs = new Runs();
+        lines(runs);
         Class<?> face = PromisedCounters.class;
         runs.due("the modifiers of the class", Modifier.toString(face.getModifiers()), "public final");
         runs.due("its package", face.getPackageName(), "");
@@ -56,6 +60,28 @@ final class FaceTest {
         methods(runs, face);
         classesInside(runs, face);
         runs.end();
+    }
+
+    /** The program has each line of the document's face, the names of the parameters with it, in its order. */
+    private static void lines(Runs runs) throws IOException {
+        String program = Files.readString(Path.of("src/main/java/PromisedCounters.java")).replaceAll("\\s+", " ");
+        String document = Files.readString(Path.of("../shared/DOC.md"));
+        int start = document.indexOf("```java\n") + "```java\n".length();
+        String face = document.substring(start, document.indexOf("```", start));
+        int behind = 0;
+        int found = 0;
+        for (String line : face.split("\n")) {
+            String text = line.strip();
+            if (text.startsWith("public")) {
+                String told = text.contains("(") ? text.replace(";", " {") : text;
+                int at = program.indexOf(told, behind);
+                runs.due("whether the program has, behind the one before: " + told, at >= 0, true);
+                behind = Math.max(behind, at);
+                found++;
+            }
+        }
+        runs.due("lines of the face: the class, the constant, the constructor and the methods", found,
+                METHODS.length + 3);
     }
 
     private static void constructors(Runs runs, Class<?> face) {

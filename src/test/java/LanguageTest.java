@@ -1,6 +1,8 @@
 import java.io.IOException;
 import java.nio.file.Files;
 import java.nio.file.Path;
+import java.util.LinkedHashMap;
+import java.util.Map;
 import java.util.Set;
 import java.util.regex.Matcher;
 import java.util.regex.Pattern;
@@ -18,6 +20,11 @@ final class LanguageTest {
     private static final Set<String> EXCEPTIONS = Set.of("IndexOutOfBoundsException", "IllegalArgumentException",
             "IllegalStateException");
 
+    /** The head of a method, or of another block: how far it is to the right, its name, what stands in brackets. */
+    private static final Pattern METHOD =
+            Pattern.compile("(?m)^( +)(?:\\w+ )*\\w+ (\\w+)\\(([^()]*)\\)[^;{}]*\\{$");
+    private static final int MOST_DEEP = 8;
+
     public static void main(String[] args) throws IOException {
         Runs runs = new Runs();
         String whole = Files.readString(PROGRAM);
@@ -27,6 +34,7 @@ final class LanguageTest {
         calls(runs, code);
         exceptions(runs, code);
         methods(runs, code);
+        depths(runs, code);
         runs.due("lambdas and method references", code.contains("->") || code.contains("::"), false);
         runs.due("annotations", code.contains("@"), false);
         runs.due("static blocks", Pattern.compile("static\\s*\\{").matcher(code).find(), false);
@@ -68,18 +76,60 @@ final class LanguageTest {
 
     /** Rule 11: some sixty lines and seven parameters at most. */
     private static void methods(Runs runs, String code) {
-        Matcher head = Pattern.compile("(?m)^( +)(?:\\w+ )*\\w+ (\\w+)\\(([^()]*)\\)[^;{}]*\\{$").matcher(code);
+        Matcher head = METHOD.matcher(code);
         int found = 0;
         while (head.find()) {
-            if (Set.of("if", "for", "while", "switch").contains(head.group(2))) {
+            if (!isMethod(head)) {
                 continue;
             }
             found++;
-            int end = code.indexOf("\n" + head.group(1) + "}", head.end());
-            long lines = code.substring(head.start(), end + 1).chars().filter(c -> c == '\n').count() + 1;
+            long lines = wholeOf(head, code).chars().filter(c -> c == '\n').count() + 1;
             runs.due("the lines of " + head.group(2) + " are few", lines <= 60, true);
             runs.due("the parameters of " + head.group(2) + " are few", head.group(3).split(",").length <= 7, true);
         }
         runs.due("methods are found", found > 50, true);
+    }
+
+    private static boolean isMethod(Matcher head) {
+        return !Set.of("if", "for", "while", "switch").contains(head.group(2));
+    }
+
+    /** A method from its head to the line of its last brace. */
+    private static String wholeOf(Matcher head, String code) {
+        return code.substring(head.start(), code.indexOf("\n" + head.group(1) + "}", head.end()) + 1);
+    }
+
+    /**
+     * Rules 8 and 11: no recursion, and calls at most eight deep, those of the library with them. The names of
+     * methods tell which one is called, so that no two methods may have the same.
+     */
+    private static void depths(Runs runs, String code) {
+        Map<String, String> bodies = new LinkedHashMap<>();
+        Matcher head = METHOD.matcher(code);
+        while (head.find()) {
+            if (isMethod(head)) {
+                String body = wholeOf(head, code).substring(head.end() - head.start());
+                runs.due("another method " + head.group(2), bodies.put(head.group(2), body) == null, true);
+            }
+        }
+        for (String name : bodies.keySet()) {
+            runs.due("the calls of " + name + " go eight deep at most", depthOf(name, bodies, 0) <= MOST_DEEP, true);
+        }
+    }
+
+    /** How deep the calls of a method go, itself with them; a recursion is deeper than can be. */
+    private static int depthOf(String name, Map<String, String> bodies, int above) {
+        if (above > MOST_DEEP) {
+            return 0;
+        }
+        int deepest = 0;
+        Matcher call = Pattern.compile("\\b([A-Z]\\w*\\.)?([a-z]\\w*)\\(").matcher(bodies.get(name));
+        while (call.find()) {
+            boolean isOfLibrary = call.group(1) != null;
+            if (isOfLibrary || bodies.containsKey(call.group(2))) {
+                deepest = Math.max(deepest, isOfLibrary ? 1 : depthOf(call.group(2), bodies, above + 1));
+            }
+        }
+        return 1 + deepest;
     }
 }

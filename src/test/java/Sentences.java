@@ -59,10 +59,8 @@ final class Sentences {
         return isInTerms || name.equals(FIRST_PLACE) ? name : "";
     }
 
-    /** What the interface says ahead of the calls is for its readers, and no call's answer. */
     private static boolean isTold(String place, String line) {
-        return !place.isEmpty() && !line.isBlank() && !HEADING.matcher(line).matches()
-                && !line.startsWith("Ahead of the calls");
+        return !place.isEmpty() && !line.isBlank() && !HEADING.matcher(line).matches();
     }
 
     private static String[] split(String line) {
